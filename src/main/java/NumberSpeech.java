@@ -54,8 +54,8 @@ public final class NumberSpeech {
     private final Book book = new Book();
     private final History history = new History();
     private final TextReader reader = new TextReader();
-    private final Voice[] voices = new Voice[LANGUAGES];
-    private final Ranking[] rankings = new Ranking[LANGUAGES];
+    private final Ranking rankingZero = new Ranking();
+    private final Ranking rankingOne = new Ranking();
     // says what would be said by other rules, so that the voices keep what they know
     private final Voice trial = new Voice();
     private final WordCount wordCount = new WordCount();
@@ -66,10 +66,6 @@ public final class NumberSpeech {
     private int wrong = 0;
 
     public NumberSpeech() {
-        for (int language = 0; language < LANGUAGES; language++) {
-            voices[language] = new Voice();
-            rankings[language] = new Ranking(voices[language]);
-        }
     }
 
     // ---- the tape and its texts ----
@@ -143,7 +139,7 @@ public final class NumberSpeech {
         history.keep(book);
         book.lift(language, rule);
         trial.learn(book, language, NONE);
-        int changed = trial.differences(voices[language], book.highest, MOST_LIMIT + 1);
+        int changed = trial.differences(voiceOf(language), book.highest, MOST_LIMIT + 1);
         learn(language);
         return changed;
     }
@@ -160,8 +156,9 @@ public final class NumberSpeech {
     }
 
     private void learn(int language) {
-        voices[language].learn(book, language, NONE);
-        rankings[language].forget();
+        Ranking ranking = rankingOf(language);
+        ranking.voice.learn(book, language, NONE);
+        ranking.forget();
     }
 
     // ---- what there is ----
@@ -197,7 +194,7 @@ public final class NumberSpeech {
             case 4:
                 return asked.size();
             default:
-                return voices[language].countFirstFits(rule, book.highest);
+                return voiceOf(language).countFirstFits(rule, book.highest);
         }
     }
 
@@ -211,7 +208,7 @@ public final class NumberSpeech {
     public int fits(int language, int n) throws NoSuchElementException, IllegalArgumentException {
         wantLanguage(language);
         wantBetween(n, 0, TOP);
-        return voices[language].firstFit(n);
+        return voiceOf(language).firstFit(n);
     }
 
     // ---- one number ----
@@ -219,7 +216,7 @@ public final class NumberSpeech {
     public int said(int language, int n, int what) throws NoSuchElementException, IllegalArgumentException {
         wantLanguage(language);
         wantBetween(what, 0, 2);
-        Voice voice = voices[language];
+        Voice voice = voiceOf(language);
         if (!voice.says(n)) {
             return NONE;
         }
@@ -235,24 +232,24 @@ public final class NumberSpeech {
 
     public int at(int language, int n, int k) throws NoSuchElementException {
         wantLanguage(language);
-        Voice voice = voices[language];
+        Voice voice = voiceOf(language);
         return voice.says(n) ? voice.memo.byteOf(n, k) : NONE;
     }
 
     public int asked(int language, int n) throws NoSuchElementException {
         wantLanguage(language);
-        Voice voice = voices[language];
+        Voice voice = voiceOf(language);
         return voice.says(n) ? voice.memo.asksOf(n) : NONE;
     }
 
     public int causes(int language, int n) throws NoSuchElementException {
         wantLanguage(language);
-        return voices[language].traceCauses(n);
+        return voiceOf(language).traceCauses(n);
     }
 
     public int cause(int language, int n, int k, int what) throws NoSuchElementException, IllegalArgumentException {
         wantLanguage(language);
-        Voice voice = voices[language];
+        Voice voice = voiceOf(language);
         wantPart(k, voice.traceCauses(n));
         wantBetween(what, 0, 3);
         return voice.causes.answer(k, what);
@@ -263,7 +260,7 @@ public final class NumberSpeech {
     public int silent(int language, int what) throws NoSuchElementException, IllegalArgumentException {
         wantLanguage(language);
         wantBetween(what, 0, 4);
-        Voice voice = voices[language];
+        Voice voice = voiceOf(language);
         int many = 0;
         int first = NONE;
         int gaps = 0;
@@ -305,7 +302,7 @@ public final class NumberSpeech {
     public int alike(int language, int what) throws NoSuchElementException, IllegalArgumentException {
         wantLanguage(language);
         wantBetween(what, 0, 3);
-        Ranking ranking = ranked(language);
+        Ranking ranking = rankingOf(language).prepared(book.highest);
         ranking.group();
         switch (what) {
             case 0:
@@ -323,7 +320,7 @@ public final class NumberSpeech {
         wantLanguage(language);
         wantBetween(n, 0, tape.size);
         wantBetween(what, 0, 2);
-        Ranking ranking = ranked(language);
+        Ranking ranking = rankingOf(language).prepared(book.highest);
         int many = ranking.find(tape.bytes, 0, n);
         switch (what) {
             case 0:
@@ -339,7 +336,7 @@ public final class NumberSpeech {
         wantLanguage(language);
         wantHearable(n);
         wantBetween(what, 0, 2);
-        chart.weigh(ranked(language));
+        chart.weigh(rankingOf(language).prepared(book.highest));
         switch (what) {
             case 0:
                 return chart.waysInAll();
@@ -353,7 +350,7 @@ public final class NumberSpeech {
     public int way(int language, int n, int k, int what) throws NoSuchElementException, IllegalArgumentException {
         wantLanguage(language);
         wantHearable(n);
-        chart.weigh(ranked(language));
+        chart.weigh(rankingOf(language).prepared(book.highest));
         wantPart(k, chart.stretchesOfTheWay());
         wantBetween(what, 0, 1);
         return chart.stretchOfTheWay(k, what);
@@ -362,24 +359,26 @@ public final class NumberSpeech {
     public int stretches(int language, int n) throws NoSuchElementException, IllegalArgumentException {
         wantLanguage(language);
         wantHearable(n);
-        chart.weigh(ranked(language));
+        chart.weigh(rankingOf(language).prepared(book.highest));
         return chart.heardStretches;
     }
 
     public int heard(int language, int n) throws NoSuchElementException {
         wantLanguage(language);
-        Voice other = voices[LANGUAGES - 1 - language];
+        Voice other = voiceOf(LANGUAGES - 1 - language);
         if (!other.says(n)) {
             return NONE;
         }
         Memo memo = other.memo;
-        return ranked(language).find(memo.bytes, memo.startOf(n), memo.lengthOf(n));
+        return rankingOf(language).prepared(book.highest).find(memo.bytes, memo.startOf(n), memo.lengthOf(n));
     }
 
     public int same() {
+        Voice zero = rankingZero.voice;
+        Voice one = rankingOne.voice;
         int many = 0;
         for (int n = 0; n <= book.highest; n++) {
-            if (voices[0].says(n) && voices[1].says(n) && voices[0].memo.isLike(voices[1].memo, n)) {
+            if (zero.says(n) && one.says(n) && zero.memo.isLike(one.memo, n)) {
                 many++;
             }
         }
@@ -388,13 +387,13 @@ public final class NumberSpeech {
 
     public int order(int language, int k) throws NoSuchElementException {
         wantLanguage(language);
-        return ranked(language).numberAt(k);
+        return rankingOf(language).prepared(book.highest).numberAt(k);
     }
 
     public int longest(int language, int what) throws NoSuchElementException, IllegalArgumentException {
         wantLanguage(language);
         wantBetween(what, 0, 1);
-        Voice voice = voices[language];
+        Voice voice = voiceOf(language);
         int best = NONE;
         int bestLength = 0;
         for (int n = 0; n <= book.highest; n++) {
@@ -414,16 +413,16 @@ public final class NumberSpeech {
     public int chain(int language, int n, int what) throws NoSuchElementException, IllegalArgumentException {
         wantLanguage(language);
         wantBetween(what, 0, 2);
-        Voice voice = voices[language];
+        Voice voice = voiceOf(language);
         int many = 0;
         int next = n;
         int again = NONE;
-        while (many < MOST_CHAIN && again == NONE && voice.says(next)) {
-            if (isLink(next, many)) {
+        for (int i = 0; i < MOST_CHAIN && again == NONE && voice.says(next); i++) {
+            if (isLink(next, i)) {
                 again = next;
             } else {
-                links[many] = next;
-                many++;
+                links[i] = next;
+                many = i + 1;
                 next = voice.memo.lettersOf(next);
             }
         }
@@ -431,7 +430,7 @@ public final class NumberSpeech {
             case 0:
                 return many;
             case 1:
-                return many == 0 ? NONE : links[many - 1];
+                return many > 0 && many <= MOST_CHAIN ? links[many - 1] : NONE;
             default:
                 return again;
         }
@@ -448,7 +447,7 @@ public final class NumberSpeech {
 
     public int fixed(int language) throws NoSuchElementException {
         wantLanguage(language);
-        Voice voice = voices[language];
+        Voice voice = voiceOf(language);
         int many = 0;
         for (int n = 0; n <= book.highest; n++) {
             if (voice.says(n) && voice.memo.lettersOf(n) == n) {
@@ -461,7 +460,7 @@ public final class NumberSpeech {
     public int words(int language, int what) throws NoSuchElementException, IllegalArgumentException {
         wantLanguage(language);
         wantBetween(what, 0, 2);
-        wordCount.countAll(voices[language], book.highest);
+        wordCount.countAll(voiceOf(language), book.highest);
         switch (what) {
             case 0:
                 return wordCount.unlike;
@@ -474,25 +473,25 @@ public final class NumberSpeech {
 
     public int needless(int language) throws NoSuchElementException {
         wantLanguage(language);
-        Voice voice = voices[language];
+        Voice voice = voiceOf(language);
         voice.sayAll(book.highest);
         int bits = 0;
         for (int rule = 0; rule < book.countOf(language); rule++) {
-            if (!voice.hasUsed(rule) || isNeedless(language, rule)) {
+            boolean needed = false;
+            if (voice.hasUsed(rule)) {
+                trial.learn(book, language, rule);
+                needed = trial.differences(voice, book.highest, 1) > 0;
+            }
+            if (!needed) {
                 bits |= 1 << rule;
             }
         }
         return bits;
     }
 
-    private boolean isNeedless(int language, int rule) {
-        trial.learn(book, language, rule);
-        return trial.differences(voices[language], book.highest, 1) == 0;
-    }
-
     public long print(int language) throws NoSuchElementException {
         wantLanguage(language);
-        Voice voice = voices[language];
+        Voice voice = voiceOf(language);
         long print = 0;
         for (int n = 0; n <= book.highest; n++) {
             print = 31 * print + (voice.says(n) ? voice.memo.sumOf(n) : 1);
@@ -507,10 +506,12 @@ public final class NumberSpeech {
         return what == 1 ? wrong : NONE;
     }
 
-    private Ranking ranked(int language) {
-        Ranking ranking = rankings[language];
-        ranking.prepare(book.highest);
-        return ranking;
+    private Ranking rankingOf(int language) {
+        return language == 0 ? rankingZero : rankingOne;
+    }
+
+    private Voice voiceOf(int language) {
+        return language == 0 ? rankingZero.voice : rankingOne.voice;
     }
 
     // ---- refusals ----
@@ -549,6 +550,37 @@ public final class NumberSpeech {
             wrong++;
             throw new IllegalArgumentException("a text that can't be heard");
         }
+    }
+
+    // ---- bytes ----
+
+    private static boolean isLetter(int sign) {
+        return sign >= 'a' && sign <= 'z';
+    }
+
+    private static boolean isDigit(int sign) {
+        return sign >= '0' && sign <= '9';
+    }
+
+    private static void copyBytes(byte[] source, int from, byte[] target, int to, int many) {
+        if (many > 0 && from >= 0 && to >= 0 && from <= source.length - many && to <= target.length - many) {
+            System.arraycopy(source, from, target, to, many);
+        }
+    }
+
+    /** Below 0: the first text comes ahead; 0: they are the same. */
+    private static int compareBytes(byte[] a, int aStart, int aLength, byte[] b, int bStart, int bLength) {
+        if (aStart < 0 || bStart < 0 || aStart > a.length - aLength || bStart > b.length - bLength) {
+            return 0;
+        }
+        int common = Math.min(aLength, bLength);
+        for (int i = 0; i < common; i++) {
+            int difference = (a[aStart + i] & 255) - (b[bStart + i] & 255);
+            if (difference != 0) {
+                return difference;
+            }
+        }
+        return aLength - bLength;
     }
 
     // ---- what the object is made of ----
@@ -693,8 +725,12 @@ public final class NumberSpeech {
         }
 
         void copyFrom(Book other) {
-            System.arraycopy(other.rules, 0, rules, 0, rules.length);
-            System.arraycopy(other.counts, 0, counts, 0, counts.length);
+            for (int i = 0; i < rules.length && i < other.rules.length; i++) {
+                rules[i] = other.rules[i];
+            }
+            for (int i = 0; i < counts.length && i < other.counts.length; i++) {
+                counts[i] = other.counts[i];
+            }
             highest = other.highest;
         }
     }
@@ -763,9 +799,10 @@ public final class NumberSpeech {
                 if (place >= length) {
                     return true;
                 }
-                if (!readsRule(room)) {
+                if (!readsSay(room) || !readsRange() || !readsItems()) {
                     return false;
                 }
+                keepRule();
             }
             return true;
         }
@@ -786,20 +823,19 @@ public final class NumberSpeech {
             return true;
         }
 
-        private boolean readsRule(int room) {
+        private boolean readsSay(int room) {
             int start = place;
             if (!passes("say")) {
-                return fails(MISPLACED, place);
+                return fails(MISPLACED, start);
             }
-            if (ruleCount >= room || ruleCount >= MOST_RULES) {
-                return fails(ONE_TOO_MANY, start);
+            return ruleCount < room || fails(ONE_TOO_MANY, start);
+        }
+
+        private void keepRule() {
+            if (ruleCount >= 0 && ruleCount < MOST_RULES) {
+                rules[ruleCount] = new Rule(range, itemCount, kinds, values, letters);
+                ruleCount++;
             }
-            if (!readsRange() || !readsItems()) {
-                return false;
-            }
-            rules[ruleCount] = new Rule(range, itemCount, kinds, values, letters);
-            ruleCount++;
-            return true;
         }
 
         private boolean readsRange() {
@@ -813,22 +849,17 @@ public final class NumberSpeech {
             range[1] = number;
             range[2] = 1;
             range[3] = 0;
-            if (passes("every") && !readsEvery()) {
-                return false;
+            if (passes("every")) {
+                if (!readsNumber(1, MOST_DIVISOR)) {
+                    return false;
+                }
+                range[2] = number;
+                if (!readsNumber(0, range[2] - 1)) {
+                    return false;
+                }
+                range[3] = number;
             }
             return passes("as") || fails(MISPLACED, place);
-        }
-
-        private boolean readsEvery() {
-            if (!readsNumber(1, MOST_DIVISOR)) {
-                return false;
-            }
-            range[2] = number;
-            if (!readsNumber(0, range[2] - 1)) {
-                return false;
-            }
-            range[3] = number;
-            return true;
         }
 
         private boolean readsItems() {
@@ -954,7 +985,7 @@ public final class NumberSpeech {
         }
 
         private void skipBlanks() {
-            while (place < length && byteAt(place) == BLANK) {
+            while (place >= 0 && place < length && place < bytes.length && bytes[place] == BLANK) {
                 place++;
             }
         }
@@ -974,14 +1005,6 @@ public final class NumberSpeech {
         }
     }
 
-    private static boolean isLetter(int sign) {
-        return sign >= 'a' && sign <= 'z';
-    }
-
-    private static boolean isDigit(int sign) {
-        return sign >= '0' && sign <= '9';
-    }
-
     /**
      * What was SAID of numbers by the rules of now. Those that can be of ALL have a slot each,
      * so that whole ALL can be kept; the higher ones share a few.
@@ -995,6 +1018,7 @@ public final class NumberSpeech {
         // NONE: the number is SILENT when it is the uppermost one
         private final int[] lengths = new int[SLOTS];
         private final int[] asks = new int[SLOTS];
+        // how many numbers are being said at once, at most, as the number is
         private final int[] heights = new int[SLOTS];
 
         Memo() {
@@ -1005,7 +1029,8 @@ public final class NumberSpeech {
             Arrays.fill(numbers, NONE);
         }
 
-        private int slotOf(int n) {
+        /** A slot for any n, though only one from 0 on is ever kept. */
+        int slotOf(int n) {
             if (n <= MOST_LIMIT) {
                 return n < 0 ? 0 : n;
             }
@@ -1017,28 +1042,27 @@ public final class NumberSpeech {
         }
 
         boolean isSilent(int n) {
-            return knows(n) && lengths[slotOf(n)] == NONE;
+            int slot = slotOf(n);
+            return n >= 0 && numbers[slot] == n && lengths[slot] == NONE;
         }
 
         boolean isSaid(int n) {
-            return knows(n) && lengths[slotOf(n)] != NONE;
+            int slot = slotOf(n);
+            return n >= 0 && numbers[slot] == n && lengths[slot] != NONE;
         }
 
         int startOf(int n) {
             return slotOf(n) * MOST_BYTES;
         }
 
+        /** 0, too, if n is not known to be said. */
         int lengthOf(int n) {
-            return isSaid(n) ? Math.min(lengths[slotOf(n)], MOST_BYTES) : 0;
+            int slot = slotOf(n);
+            return numbers[slot] == n && lengths[slot] > 0 ? Math.min(lengths[slot], MOST_BYTES) : 0;
         }
 
         int asksOf(int n) {
-            return isSaid(n) ? asks[slotOf(n)] : NONE;
-        }
-
-        /** How many numbers are being said at once, at most, as n is. */
-        int heightOf(int n) {
-            return isSaid(n) ? heights[slotOf(n)] : NONE;
+            return asks[slotOf(n)];
         }
 
         void keepSilent(int n) {
@@ -1050,11 +1074,11 @@ public final class NumberSpeech {
         }
 
         void keepSaid(int n, byte[] text, int start, int length, int askCount, int height) {
-            if (n < 0 || start < 0 || length < 0 || length > MOST_BYTES || start > text.length - length) {
+            if (n < 0 || length > MOST_BYTES) {
                 return;
             }
             int slot = slotOf(n);
-            System.arraycopy(text, start, bytes, slot * MOST_BYTES, length);
+            copyBytes(text, start, bytes, slot * MOST_BYTES, length);
             numbers[slot] = n;
             lengths[slot] = length;
             asks[slot] = askCount;
@@ -1098,21 +1122,6 @@ public final class NumberSpeech {
             }
             return compareBytes(bytes, startOf(n), lengthOf(n), other.bytes, other.startOf(n), other.lengthOf(n)) == 0;
         }
-    }
-
-    /** Below 0: the first text comes ahead; 0: they are the same. */
-    private static int compareBytes(byte[] a, int aStart, int aLength, byte[] b, int bStart, int bLength) {
-        if (aStart < 0 || bStart < 0 || aStart > a.length - aLength || bStart > b.length - bLength) {
-            return 0;
-        }
-        int common = Math.min(aLength, bLength);
-        for (int i = 0; i < common; i++) {
-            int difference = (a[aStart + i] & 255) - (b[bStart + i] & 255);
-            if (difference != 0) {
-                return difference;
-            }
-        }
-        return aLength - bLength;
     }
 
     /** The CAUSES of the latest number that was found SILENT, the uppermost first. */
@@ -1301,10 +1310,11 @@ public final class NumberSpeech {
         }
 
         private boolean recalls(int n, int depth) {
-            if (!memo.isSaid(n) || depth + memo.heightOf(n) > MOST_OPEN || asks + memo.asksOf(n) > MOST_ASKS) {
+            int slot = memo.slotOf(n);
+            if (!memo.isSaid(n) || depth + memo.heights[slot] > MOST_OPEN || asks + memo.asks[slot] > MOST_ASKS) {
                 return false;
             }
-            asks += memo.asksOf(n);
+            asks += memo.asks[slot];
             return true;
         }
 
@@ -1358,16 +1368,16 @@ public final class NumberSpeech {
         }
 
         private boolean addsSaid(int n, int depth, boolean glued) {
-            heights[depth] = Math.max(heights[depth], 1 + memo.heightOf(n));
-            int many = memo.lengthOf(n);
-            if (many == 0) {
+            int slot = memo.slotOf(n);
+            heights[depth] = Math.max(heights[depth], 1 + memo.heights[slot]);
+            int many = memo.lengths[slot];
+            if (many <= 0) {
                 return true;
             }
             if (!opensRoom(many, depth, glued)) {
                 return false;
             }
-            int end = depth * MOST_BYTES + lengths[depth];
-            System.arraycopy(memo.bytes, memo.startOf(n), texts, end, many);
+            copyBytes(memo.bytes, slot * MOST_BYTES, texts, depth * MOST_BYTES + lengths[depth], many);
             lengths[depth] += many;
             return true;
         }
@@ -1389,7 +1399,7 @@ public final class NumberSpeech {
 
     /** Those of ALL that are said, in ORDER; alike ones stand together, the lesser number ahead. */
     private static final class Ranking {
-        private final Voice voice;
+        final Voice voice = new Voice();
         private final int[] sorted = new int[MOST_LIMIT + 1];
         private final int[] spare = new int[MOST_LIMIT + 1];
         private int size = 0;
@@ -1401,27 +1411,24 @@ public final class NumberSpeech {
         int alikeNext = NONE;
         int unlikeCount = 0;
 
-        Ranking(Voice voice) {
-            this.voice = voice;
-        }
-
         void forget() {
             preparedTo = NONE;
         }
 
-        void prepare(int highest) {
-            if (preparedTo == highest) {
-                return;
-            }
-            size = 0;
-            for (int n = 0; n <= highest && size <= MOST_LIMIT; n++) {
-                if (voice.says(n)) {
-                    sorted[size] = n;
-                    size++;
+        /** This, with the numbers up to the highest in their order. */
+        Ranking prepared(int highest) {
+            if (preparedTo != highest) {
+                size = 0;
+                for (int n = 0; n <= highest && size <= MOST_LIMIT; n++) {
+                    if (voice.says(n)) {
+                        sorted[size] = n;
+                        size++;
+                    }
                 }
+                sort();
+                preparedTo = highest;
             }
-            sort();
-            preparedTo = highest;
+            return this;
         }
 
         /** Merges: it leaves alike ones in the order of their numbers. */
@@ -1452,12 +1459,7 @@ public final class NumberSpeech {
 
         private int compare(int a, int b) {
             Memo memo = voice.memo;
-            return compareToText(a, memo.bytes, memo.startOf(b), memo.lengthOf(b));
-        }
-
-        private int compareToText(int n, byte[] text, int start, int length) {
-            Memo memo = voice.memo;
-            return compareBytes(memo.bytes, memo.startOf(n), memo.lengthOf(n), text, start, length);
+            return compareBytes(memo.bytes, memo.startOf(a), memo.lengthOf(a), memo.bytes, memo.startOf(b), memo.lengthOf(b));
         }
 
         int numberAt(int k) {
@@ -1480,11 +1482,13 @@ public final class NumberSpeech {
         }
 
         private int placeOf(byte[] text, int start, int length, boolean behind) {
+            Memo memo = voice.memo;
             int low = 0;
             int high = size;
-            while (low < high) {
+            for (int step = 0; step <= MOST_LIMIT && low < high; step++) {
                 int middle = (low + high) / 2;
-                int difference = compareToText(numberAt(middle), text, start, length);
+                int n = numberAt(middle);
+                int difference = compareBytes(memo.bytes, memo.startOf(n), memo.lengthOf(n), text, start, length);
                 if (difference < 0 || behind && difference == 0) {
                     low = middle + 1;
                 } else {
