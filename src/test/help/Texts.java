@@ -63,7 +63,7 @@ public final class Texts {
     "language 0;say 15 as fif~teen;say 18 as eighteen;say 13 to 19 as %10~teen;say 20 to 29 as twenty %10;say 30 to 39 as thirty %10;"
       + "say 40 to 49 as forty %10;say 50 to 59 as fifty %10;say 80 to 89 as eighty %10;",
     "language 0;say 60 to 99 as /10~ty %10;say 100 to 999 as /100 hundred %100;say 1000 to 999999 as /1000 thousand %1000;"
-      + "say 1000000 to 999999999 as /1000000 million %1000000;",
+      + "say 1000000 to 999999999 as /100000 lakh %100000;",
   };
 
   static String text(boolean heavy) {
