@@ -21,7 +21,8 @@ public final class NumberSpeech {
     private static final int MOST_ASKS = 1_000;
     private static final int MOST_UNDO = 12;
     private static final int MOST_WORDS = 40;
-    private static final int MOST_CHAIN = MOST_BYTES + 2;
+    // any number, then 0 to 100 letters; and one more turn, that finds what comes again
+    private static final int MOST_CHAIN = MOST_BYTES + 3;
     private static final long HELD = 1_000_000_000L;
     private static final int BLANK = 32;
 

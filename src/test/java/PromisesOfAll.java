@@ -74,6 +74,7 @@ public final class PromisesOfAll {
     Bench.due("read of one that is dropped", () -> x.read(0, 3, 0), 0);
     tape(x, "\u00ff\u00e9!");
     Bench.due("read of other bytes", () -> x.read(0, 3, 1), -1);
+    readBehindHighOnes();
     Bench.wrong("read below 0", () -> x.read(0, -1, 0));
     Bench.wrong("read above the tape", () -> x.read(0, 21, 0));
     Bench.missing("read of no language", () -> x.read(2, 21, 9));
@@ -81,6 +82,25 @@ public final class PromisesOfAll {
     NumberSpeech y = by(50, "say 1 as " + hundred + ";say 2 as -1~-1 xx;", "");
     int long1 = tape(y, Bench.said(y, 0, 1));
     Bench.due("read of a long text", () -> y.read(0, long1, 1), 1);
+  }
+
+  /** High numbers that were said take nothing from those up to the limit. */
+  private static void readBehindHighOnes() {
+    NumberSpeech x = by(1000, "say 0 as z;say 1 to 9 as -1~a;say 10 to 999999999 as /10~%10;", "");
+    tape(x, "z");
+    Bench.due("read of z", () -> x.read(0, 1, 0), 1);
+    long sum = 0;
+    for (int n = 1001; n < 3001; n++) sum += x.said(0, n, 0);
+    Bench.due("high ones are said", String.valueOf(sum > 0), "true");
+    for (int k = 0; k < 1000; k += 7) {
+      int at = k;
+      int n = x.order(0, at);
+      int bytes = tape(x, Bench.said(x, 0, n));
+      Bench.due("bytes of " + n, () -> x.said(0, n, 0), bytes);
+      Bench.due("read of what " + n + " is said", String.valueOf(x.read(0, bytes, 1) <= n && x.read(0, bytes, 2) >= n), "true");
+    }
+    int thousand = tape(x, Bench.said(x, 0, 1000));
+    Bench.due("read of what 1000 is said", () -> x.read(0, thousand, 2), 1000);
   }
 
   private static final String HEARING = "say 1 as a;say 2 to 3 as b;say 4 as a b;say 5 as b c;say 6 as c;say 7 as a b c;say 8 as d %1;say 0 as %1;";
@@ -112,9 +132,24 @@ public final class PromisesOfAll {
     dueRow("ways held", w -> x.ways(0, 80, w), 1_000_000_000, 40, 80);
     tape(x, "b ".repeat(39) + "x");
     dueRow("ways, none of many", w -> x.ways(0, 79, w), 0, -1, -1);
+    hearingWhole();
     NumberSpeech long1 = by(10, "say 1 as aaaaaaaa~aaaaaaaa;say 2 as -1~-1;say 3 as -1~-1;say 4 as -1~-3~aaaa;", "");
     int wide = tape(long1, "a".repeat(84) + " " + "a".repeat(64));
     dueRow("ways of long words", w -> long1.ways(0, wide, w), 1, 2, 7);
+  }
+
+  private static void hearingWhole() {
+    NumberSpeech x = by(10, "say 1 as a;say 2 as b c d e;say 3 as a b c;say 4 as d;say 5 as e;say 6 as x y z;", "");
+    int n = tape(x, "a b c d e");
+    dueRow("fewest ahead of the longer", w -> x.ways(0, n, w), 2, 2, 3);
+    int whole = tape(x, "x y z a");
+    dueRow("heard as a whole alone", w -> x.ways(0, whole, w), 1, 2, 7);
+    NumberSpeech z = by(10, "say 1 as aaaaaaaa aaaaaaaa aaaaaaaa aaaaaaaa aaaaaaaa aaaaa;say 2 as -1~-1;", "");
+    Bench.due("a hundred bytes", () -> z.said(0, 2, 0), 100);
+    int hundred = tape(z, Bench.said(z, 0, 2));
+    dueRow("a hundred bytes", w -> z.ways(0, hundred, w), 1, 1, 2);
+    int more = tape(z, Bench.said(z, 0, 2) + "a");
+    dueRow("a byte more", w -> z.ways(0, more, w), 0, -1, -1);
   }
 
   private static void dueRefusals(NumberSpeech x) {
@@ -224,6 +259,13 @@ public final class PromisesOfAll {
     Bench.due("order of alike ones", () -> x.order(1, 1000), 1000);
     Bench.due("no more", () -> x.order(1, 1001), -1);
     Bench.missing("order of no language", () -> x.order(2, 0));
+    Bench.text(x, "language 1;say 0 to 10 every 2 0 as abcdefgh ijkl;say 1 as ab;");
+    x.limit(2);
+    Bench.due("order", () -> x.order(1, 0), 1);
+    Bench.text(x, "language 1;say 0 as ab~c;say 1 as ab;say 2 as a;");
+    Bench.due("order of shorter ones", () -> x.order(1, 0), 2);
+    Bench.due("order of shorter ones", () -> x.order(1, 1), 1);
+    Bench.due("order of shorter ones", () -> x.order(1, 2), 0);
   }
 
   private static void promise28() {
@@ -235,6 +277,11 @@ public final class PromisesOfAll {
     dueRow("longest, all silent", w -> x.longest(0, w), -1, -1);
     Bench.text(x, "language 1;say 0 to 1 as %1;");
     dueRow("longest of nothing", w -> x.longest(1, w), 0, 0);
+    Bench.text(x, "language 1;say 0 as a b;say 20 as a;say 19 as a b c;");
+    x.limit(19);
+    dueRow("longest, the last one", w -> x.longest(1, w), 19, 0);
+    x.limit(20);
+    dueRow("longest, fewest by the last one", w -> x.longest(1, w), 19, 20);
     Bench.missing("longest of no language", () -> x.longest(2, 9));
   }
 
@@ -254,14 +301,30 @@ public final class PromisesOfAll {
     dueRow("chain of its own", w -> z.chain(0, 20, w), 1, 20, 20);
     dueRow("chain of the highest", w -> z.chain(0, 999999999, w), 2, 22, 22);
     Bench.missing("chain of no language", () -> x.chain(2, 5, 9));
+    longestChain();
+  }
+
+  /** Of 1000 it has 0, of each n below 100 n + 1, of 100 20 letters: the chain goes through all of them. */
+  private static void longestChain() {
+    NumberSpeech x = by(20, "say 1000 to 1001 as %1;say 0 as a;say 100 as -81;say 1 to 9 as -1~b;say 10 to 99 as -10~cccccccc~dd;", "");
+    for (int n = 0; n < 100; n++) {
+      int letters = n;
+      Bench.due("letters of " + n, () -> x.said(0, letters, 2), n + 1);
+    }
+    dueRow("the longest chain", w -> x.chain(0, 1000, w), 102, 100, 20);
+    dueRow("one less", w -> x.chain(0, 0, w), 101, 100, 20);
+    x.drop(0, 2);
+    dueRow("the longest chain into silence", w -> x.chain(0, 1000, w), 101, 99, -1);
   }
 
   private static void promise30() {
-    NumberSpeech x = by(20, "say 0 as %1;say 4 as a b c d;say 5 as abcde;say 3 as ab c d;say 6 as a b c;say 30 as a;say 1 as abc~abc;", "");
+    NumberSpeech x = by(20, "say 0 as %1;say 4 as a b c d;say 5 as abcde;say 3 as ab c d;say 6 as a b c;say 30 as a;say 1 as abc~abc;say 20 as a;", "");
     Bench.due("fixed", () -> x.fixed(0), 3);
     Bench.due("fixed of none", () -> x.fixed(1), 0);
     x.limit(4);
     Bench.due("fixed to the limit", () -> x.fixed(0), 2);
+    x.limit(3);
+    Bench.due("fixed to the limit", () -> x.fixed(0), 1);
     Bench.missing("fixed of no language", () -> x.fixed(2));
   }
 
@@ -296,6 +359,8 @@ public final class PromisesOfAll {
     Bench.missing("needless of no language", () -> x.needless(2));
     NumberSpeech y = by(20, "say 1 as x;say 1 as x;say 2 as y;say 2 as z;say 1 as w;", "");
     Bench.due("needless: each of two alike", () -> y.needless(0), 0b11011);
+    NumberSpeech z = by(20, "say 0 as a;say 20 as b;say 21 as c;", "");
+    Bench.due("needless: from 0 to the limit", () -> z.needless(0), 0b100);
   }
 
   private static void promise33() {

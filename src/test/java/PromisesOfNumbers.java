@@ -200,6 +200,9 @@ public final class PromisesOfNumbers {
     Bench.due("asked 8", () -> z.asked(0, 8), 763 + 127 + 31 + 31 + 15 + 15);
     Bench.due("asked 9", () -> z.asked(0, 9), 985);
     Bench.due("asked 10", () -> z.asked(0, 10), 987);
+    NumberSpeech twice = by("say 0 as %1;say 1 to 8 as -1 -1;say 9 as -1;say 10 as -2 -2;");
+    Bench.due("asked 9", () -> twice.asked(0, 9), 511);
+    Bench.due("asked 10", () -> twice.asked(0, 10), -1);
     exactlyAThousand();
   }
 

@@ -41,6 +41,17 @@ public final class PromisesOfRules {
     Bench.due("drop", () -> x.drop(0, 0), 0);
     Bench.missing("drop of none", () -> x.drop(0, 0));
     Bench.due("can be taken back", () -> x.told(2), 6);
+    for (int language = 0; language < 2; language++) {
+      int l = language;
+      StringBuilder thirty = new StringBuilder("language " + l + ";");
+      for (int n = 0; n < 30; n++) thirty.append("say").append(n).append("as/9;");
+      Bench.text(x, thirty.toString());
+      Bench.due("drop of thirty", () -> x.drop(l, 12), 29);
+      Bench.due("the last one", () -> x.rule(l, 28, 0), 29);
+      Bench.due("drop the last", () -> x.drop(l, 28), 28);
+      Bench.missing("no such one now", () -> x.rule(l, 28, 0));
+      Bench.due("the one behind it", () -> x.rule(l, 12, 0), 13);
+    }
   }
 
   private static void promise8() {
@@ -66,6 +77,11 @@ public final class PromisesOfRules {
     Bench.dueSaid(y, 0, 5, null);
     Bench.due("rise back", () -> y.rise(0, 1), 1);
     Bench.dueSaid(y, 0, 5, "z");
+    y.limit(1000);
+    Bench.text(y, "language 0;say 0 to 1000 as a;say 0 to 1000 as b;");
+    Bench.due("rise: all are other", () -> y.rise(0, 1), 1001);
+    y.limit(999);
+    Bench.due("rise: to the limit", () -> y.rise(0, 1), 1000);
   }
 
   private static void promise9() {

@@ -98,6 +98,9 @@ public final class PromisesOfTexts {
     Bench.dueFault("   ", 1, 3);
     Bench.dueFault("languages 0;", 1, 0);
     Bench.dueFault(" Language 0;", 1, 1);
+    Bench.dueFault("kanguage 0;", 1, 0);
+    Bench.dueFault("languagf 0;", 1, 0);
+    Bench.dueFault("languag 0;", 1, 0);
     Bench.dueFault("language", 1, 8);
     Bench.dueFault("language  ", 1, 10);
     Bench.dueFault("language ;", 1, 9);
@@ -136,6 +139,7 @@ public final class PromisesOfTexts {
     Bench.dueFault("language 10", 2, 9);
     Bench.dueFault("language 99999999999999999999999999;", 2, 9);
     Bench.dueFault(HEAD + "say 1000000000 as a;", 2, 15);
+    Bench.dueFault(HEAD + "say 9999999990 as a;", 2, 15);
     Bench.dueFault(HEAD + "say 4294967301 as a;", 2, 15);
     Bench.dueFault(HEAD + "say 18446744073709551621 as a;", 2, 15);
     Bench.dueFault(HEAD + "say 5 to 4 as a;", 2, 20);
