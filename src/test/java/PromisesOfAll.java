@@ -101,6 +101,8 @@ public final class PromisesOfAll {
     }
     int thousand = tape(x, Bench.said(x, 0, 1000));
     Bench.due("read of what 1000 is said", () -> x.read(0, thousand, 2), 1000);
+    for (int n = 1001; n < 1201; n++) x.said(0, n, 0);
+    Bench.due("read of what 1000 is said, once more", () -> x.read(0, thousand, 2), 1000);
   }
 
   private static final String HEARING = "say 1 as a;say 2 to 3 as b;say 4 as a b;say 5 as b c;say 6 as c;say 7 as a b c;say 8 as d %1;say 0 as %1;";
