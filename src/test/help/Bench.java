@@ -5,6 +5,8 @@ import java.util.NoSuchElementException;
 public final class Bench {
   public interface Call { long go(); }
 
+  public interface IntCall { int go(int argument); }
+
   public static final String MISSING = "throws.NoSuchElementException";
   public static final String WRONG = "throws.IllegalArgumentException";
 
@@ -38,6 +40,17 @@ public final class Bench {
     }
   }
 
+  public static int wrongRows() { return wrong; }
+
+  /** A row of answers, for what 0, 1 ..; the what's ahead of these and behind them are refused. */
+  public static void dueRow(String what, IntCall call, int... due) {
+    for (int i = 0; i < due.length; i++) {
+      int w = i;
+      due(what + " " + i, () -> call.go(w), due[i]);
+    }
+    for (int w : new int[] {due.length, -1, Integer.MAX_VALUE, Integer.MIN_VALUE}) wrong(what + " of what " + w, () -> call.go(w));
+  }
+
   public static void end(String name) {
     System.out.println(name + ": " + rows + " rows, " + wrong + " not as due");
     if (wrong != 0) System.exit(1);
@@ -66,12 +79,81 @@ public final class Bench {
   /** Empties the tape (by a fault at its start). */
   public static void empty(NumberSpeech x) { x.text(0); }
 
+  /** Brings a text on the tape in place of what is there. */
+  public static int tape(NumberSpeech x, String text) {
+    empty(x);
+    return bring(x, text);
+  }
+
+  /** Takes these rules, by as many texts as they need; how many there are then. */
+  public static int rules(NumberSpeech x, int language, String rules) {
+    String head = "language " + language + ";";
+    StringBuilder text = new StringBuilder(head);
+    if (x.told(1) != 0) empty(x);
+    int taken;
+    boolean first = true;
+    for (String rule : rules.split("(?<=;)")) {
+      if (text.length() + rule.length() > 400) {
+        if (first) text(x, text.toString());
+        else more(x, text.toString());
+        first = false;
+        text.setLength(head.length());
+      }
+      text.append(rule);
+    }
+    taken = first ? text(x, text.toString()) : more(x, text.toString());
+    due("rules of language " + language + " by " + rules, String.valueOf(taken), String.valueOf(rules.chars().filter(c -> c == ';').count()));
+    return taken;
+  }
+
+  /** A new object with these rules of languages 0 and 1. */
+  public static NumberSpeech by(String zero, String one) {
+    NumberSpeech x = new NumberSpeech();
+    rules(x, 0, zero);
+    rules(x, 1, one);
+    return x;
+  }
+
+  public static NumberSpeech by(String zero) {
+    NumberSpeech x = new NumberSpeech();
+    rules(x, 0, zero);
+    return x;
+  }
+
+  public static NumberSpeech by(int limit, String zero, String one) {
+    NumberSpeech x = by(zero, one);
+    x.limit(limit);
+    return x;
+  }
+
   /** What a number is said, read byte by byte; null if it is silent. */
   public static String said(NumberSpeech x, int language, int n) {
-    if (x.said(language, n, 0) == NumberSpeech.NONE) return null;
+    int bytes = x.said(language, n, 0);
+    if (bytes == NumberSpeech.NONE) return null;
     StringBuilder text = new StringBuilder();
-    for (int k = 0; k < x.said(language, n, 0); k++) text.append((char) x.at(language, n, k));
+    for (int k = 0; k < bytes; k++) text.append((char) x.at(language, n, k));
     return text.toString();
+  }
+
+  /** All that undo() brings back, but for what else could be: limit, rules, items. */
+  public static String book(NumberSpeech x) {
+    StringBuilder book = new StringBuilder("limit ").append(x.told(0));
+    for (int language = 0; language < 2; language++) {
+      for (int rule = 0; rule < x.told(3 + language); rule++) {
+        book.append(" |");
+        for (int what = 0; what < 5; what++) book.append(' ').append(x.rule(language, rule, what));
+        for (int item = 0; item < x.rule(language, rule, 4); item++) {
+          book.append(' ').append(x.item(language, rule, item, 0)).append(':').append(x.item(language, rule, item, 1));
+        }
+      }
+      book.append(" || ").append(x.print(language)).append(' ');
+    }
+    return book.toString();
+  }
+
+  /** The book, and how many can be taken back, bytes of the tape, the fault, how many were refused. */
+  public static String state(NumberSpeech x) {
+    return book(x) + "; " + x.told(1) + " " + x.told(2) + " " + x.fault() + " " + x.status(0) + " " + x.status(1);
   }
 
   public static void dueSaid(NumberSpeech x, int language, int n, String want) {

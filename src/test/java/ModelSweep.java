@@ -1,25 +1,54 @@
+import java.util.ArrayList;
+import java.util.List;
+import java.util.function.Consumer;
+
 /** Sets of rules; of each all that can be asked of every number, and of all of them, as the Model answers it. */
 public final class ModelSweep {
+  /** An object is asked this often at most; then another one, brought to the same state, goes on. */
+  private static final int MOST_CALLS = 512;
+  /** At most so many calls bring a new object to where the old one stood: three texts, the limit, two rises. */
+  private static final int MOST_TO_RENEW = 3 * 22 + 3;
+
   private static NumberSpeech x;
   private static Model m;
   private static String texts;
+  private static int calls;
+  private static final List<Consumer<NumberSpeech>> changes = new ArrayList<>();
 
   private static void check(String what, Bench.Call mine, Bench.Call due) {
+    if (calls >= MOST_CALLS) renew();
+    calls++;
     Bench.due(what + " by " + texts, Bench.answer(mine), Bench.answer(due));
   }
 
+  private static void renew() {
+    x = new NumberSpeech();
+    for (Consumer<NumberSpeech> change : changes) change.accept(x);
+    calls = MOST_TO_RENEW;
+  }
+
+  private static void change(String what, Consumer<NumberSpeech> change, Bench.Call mine, Bench.Call due) {
+    check(what, mine, due);
+    changes.add(change);
+  }
+
   private static void take(String text, boolean behind) {
-    x.text(0);
+    feed(text);
+    texts += text;
+    if (behind) change("more", y -> Bench.more(y, text), () -> x.more(text.length()), () -> m.more(text.length()));
+    else change("text", y -> Bench.text(y, text), () -> x.text(text.length()), () -> m.text(text.length()));
+  }
+
+  private static void feed(String text) {
     m.text(0);
+    x.text(0);
     Bench.bring(x, text);
+    calls += 21;
     for (int i = 0; i < text.length(); i += 20) {
       int[] w = new int[5];
       for (int k = 0; k < 20; k++) w[k / 4] = w[k / 4] << 8 | (i + k < text.length() ? text.charAt(i + k) : 0);
       m.feed(w[0], w[1], w[2], w[3], w[4]);
     }
-    texts += text;
-    if (behind) check("more", () -> x.more(text.length()), () -> m.more(text.length()));
-    else check("text", () -> x.text(text.length()), () -> m.text(text.length()));
   }
 
   private static void sweepNumber(int n) {
@@ -81,20 +110,25 @@ public final class ModelSweep {
       x = new NumberSpeech();
       m = new Model();
       texts = "";
+      calls = 0;
+      changes.clear();
       for (int i = 0; i < 3; i++) {
         int kind = Texts.pick(3);
         String text = kind == 0 ? Texts.busy(i & 1) : kind == 1 ? Texts.text(false) : Texts.ENGLISH[i];
         if (text.length() <= 400) take(text, i > 0 && Texts.pick(2) == 0);
       }
       int limit = Texts.oneOf(40, 100, 100, 130, 1000);
-      check("limit", () -> x.limit(limit), () -> m.limit(limit));
+      change("limit", y -> y.limit(limit), () -> x.limit(limit), () -> m.limit(limit));
       boolean backwards = Texts.pick(2) == 0;
       int step = limit == 1000 ? 7 : 1;
       for (int i = 0; i <= limit; i += step) sweepNumber(backwards ? limit - i : i);
       for (int i = 0; i < 20; i++) sweepNumber(Texts.pick(1_000_000_000));
       sweepAll();
-      check("rise(0,1)", () -> x.rise(0, 1), () -> m.rise(0, 1));
-      check("rise(1,1)", () -> x.rise(1, 1), () -> m.rise(1, 1));
+      for (int language = 0; language < 2; language++) {
+        int l = language;
+        if (m.told(3 + l) > 1) change("rise(" + l + ",1)", y -> y.rise(l, 1), () -> x.rise(l, 1), () -> m.rise(l, 1));
+        else check("rise(" + l + ",1)", () -> x.rise(l, 1), () -> m.rise(l, 1));
+      }
       sweepAll();
     }
     Bench.end("ModelSweep");

@@ -1,12 +1,5 @@
 /** Promises 14 to 18 and the terms: what one number is said, and why it is silent. */
 public final class PromisesOfNumbers {
-  private static NumberSpeech by(String rules) {
-    NumberSpeech x = new NumberSpeech();
-    int taken = Bench.text(x, "language 0;" + rules);
-    Bench.due("text of " + rules, () -> taken < 0 ? taken : 0, 0);
-    return x;
-  }
-
   private static void dueCauses(NumberSpeech x, int n, int[][] due) {
     Bench.due("causes of " + n, () -> x.causes(0, n), due.length);
     for (int k = 0; k < due.length; k++) {
@@ -20,7 +13,7 @@ public final class PromisesOfNumbers {
   }
 
   private static void saidByItems() {
-    NumberSpeech x = by("say 0 as zero;say 1 as one;say 2 as two;say 3 as three;say 20 as /10 x;say 21 to 29 as a %10 b;"
+    NumberSpeech x = Bench.by("say 0 as zero;say 1 as one;say 2 as two;say 3 as three;say 20 as /10 x;say 21 to 29 as a %10 b;"
         + "say 30 to 39 as a #10 b;say 40 as -39;say 50 as x +950;say 1000 as thousand;");
     Bench.dueSaid(x, 0, 20, "two x");
     Bench.dueSaid(x, 0, 23, "a three b");
@@ -28,13 +21,13 @@ public final class PromisesOfNumbers {
     Bench.dueSaid(x, 0, 31, "a one b");
     Bench.dueSaid(x, 0, 40, "one");
     Bench.dueSaid(x, 0, 50, "x thousand");
-    NumberSpeech y = by("say 0 as never;say 10 to 20 as a %5 b;say 1 as c;");
+    NumberSpeech y = Bench.by("say 0 as never;say 10 to 20 as a %5 b;say 1 as c;");
     Bench.dueSaid(y, 0, 15, "a b");
     Bench.dueSaid(y, 0, 16, "a c b");
-    NumberSpeech first = by("say 5 as a;say 0 to 9 as b;");
+    NumberSpeech first = Bench.by("say 5 as a;say 0 to 9 as b;");
     Bench.dueSaid(first, 0, 5, "a");
     Bench.dueSaid(first, 0, 4, "b");
-    NumberSpeech empty = by("say 0 as %1;say 1 as -1 a;say 2 as a -2;say 3 as a -3 b;say 4 as -4 -4;");
+    NumberSpeech empty = Bench.by("say 0 as %1;say 1 as -1 a;say 2 as a -2;say 3 as a -3 b;say 4 as -4 -4;");
     Bench.dueSaid(empty, 0, 0, "");
     Bench.dueSaid(empty, 0, 1, "a");
     Bench.dueSaid(empty, 0, 2, "a");
@@ -43,7 +36,7 @@ public final class PromisesOfNumbers {
   }
 
   private static void glue() {
-    NumberSpeech x = by("say 0 as %1;say 1 as a~b;say 2 as a ~ %1 b;say 3 as a %1 ~ b;say 4 as a~%1~b c;say 5 as %1~a b;"
+    NumberSpeech x = Bench.by("say 0 as %1;say 1 as a~b;say 2 as a ~ %1 b;say 3 as a %1 ~ b;say 4 as a~%1~b c;say 5 as %1~a b;"
         + "say 6 as a~-6 b;say 7 as a -7~b;say 8 as a~b c~d;say 9 as a b~%1;say 10 as -9~-9;say 11 as a~-8 b;");
     Bench.dueSaid(x, 0, 1, "ab");
     Bench.dueSaid(x, 0, 2, "ab");
@@ -61,7 +54,7 @@ public final class PromisesOfNumbers {
   private static void promise14() {
     saidByItems();
     glue();
-    NumberSpeech x = by("say 5 as ab~c d;say 999999999 as x;say 0 as %1;");
+    NumberSpeech x = Bench.by("say 5 as ab~c d;say 999999999 as x;say 0 as %1;");
     Bench.due("bytes", () -> x.said(0, 5, 0), 5);
     Bench.due("words", () -> x.said(0, 5, 1), 2);
     Bench.due("letters", () -> x.said(0, 5, 2), 4);
@@ -79,7 +72,7 @@ public final class PromisesOfNumbers {
   }
 
   private static void promise15() {
-    NumberSpeech x = by("say 5 as ab c;");
+    NumberSpeech x = Bench.by("say 5 as ab c;");
     Bench.due("at 0", () -> x.at(0, 5, 0), 'a');
     Bench.due("at 2", () -> x.at(0, 5, 2), ' ');
     Bench.due("at 3", () -> x.at(0, 5, 3), 'c');
@@ -92,7 +85,7 @@ public final class PromisesOfNumbers {
   }
 
   private static void promise16() {
-    NumberSpeech x = by("say 0 as a;say 1 as b %1;say 2 to 4 as -1 -2;say 5 as #5 %5 -5;say 7 as +7;");
+    NumberSpeech x = Bench.by("say 0 as a;say 1 as b %1;say 2 to 4 as -1 -2;say 5 as #5 %5 -5;say 7 as +7;");
     Bench.due("asked 0", () -> x.asked(0, 0), 0);
     Bench.due("a rest of 0 is not asked for", () -> x.asked(0, 1), 0);
     Bench.due("asked 2", () -> x.asked(0, 2), 2);
@@ -105,7 +98,7 @@ public final class PromisesOfNumbers {
   }
 
   private static void promise17And18() {
-    NumberSpeech x = by("say 5 as a;say 6 as a +7;say 7 as -8;say 8 as a ~ +2;say 9 as b +999999;say 10 as -3;say 11 as -6 +999998;"
+    NumberSpeech x = Bench.by("say 5 as a;say 6 as a +7;say 7 as -8;say 8 as a ~ +2;say 9 as b +999999;say 10 as -3;say 11 as -6 +999998;"
         + "say 1000009 as +999999;say 999999999 as +1;say 999 to 100000 as +999;");
     Bench.due("none of one that is said", () -> x.causes(0, 5), 0);
     Bench.missing("cause of one that is said", () -> x.cause(0, 5, 0, 0));
@@ -131,7 +124,7 @@ public final class PromisesOfNumbers {
   }
 
   private static void loops() {
-    NumberSpeech x = by("say 1 as a +1;say 2 as -1;say 3 as +0001 -3;say 4 as -1;say 0 as #1;");
+    NumberSpeech x = Bench.by("say 1 as a +1;say 2 as -1;say 3 as +0001 -3;say 4 as -1;say 0 as #1;");
     dueCauses(x, 1, new int[][] {{1, 0, 0, 1}, {2, 0, 1, 0}, {1, 3, -1, -1}});
     dueCauses(x, 2, new int[][] {{2, 0, 1, 0}, {1, 0, 0, 1}, {2, 3, -1, -1}});
     dueCauses(x, 0, new int[][] {{0, 0, 4, 0}, {0, 3, -1, -1}});
@@ -140,7 +133,7 @@ public final class PromisesOfNumbers {
   }
 
   private static void deep() {
-    NumberSpeech x = by("say 0 as z;say 1 to 40 as -1;say 50 as -20;say 60 as -31 a;say 70 to 71 as -50;");
+    NumberSpeech x = Bench.by("say 0 as z;say 1 to 40 as -1;say 50 as -20;say 60 as -31 a;say 70 to 71 as -50;");
     Bench.due("29 below it", () -> x.asked(0, 29), 29);
     Bench.dueSaid(x, 0, 29, "z");
     Bench.dueSaid(x, 0, 30, null);
@@ -154,24 +147,24 @@ public final class PromisesOfNumbers {
     Bench.dueSaid(x, 0, 60, null);
     Bench.due("29 is said, but not below another one", () -> x.cause(0, 60, 30, 0), 0);
     Bench.due("20 and 21 below another one", () -> x.asked(0, 70), 21);
-    NumberSpeech loop = by("say 0 to 50 as +1;");
+    NumberSpeech loop = Bench.by("say 0 to 50 as +1;");
     Bench.due("the 31st, ahead of no rule", () -> loop.cause(0, 21, 30, 1), 4);
     Bench.due("no rule ahead", () -> loop.cause(0, 22, 29, 1), 1);
-    NumberSpeech back = by("say 1 to 29 as +1;say 30 as -29;");
+    NumberSpeech back = Bench.by("say 1 to 29 as +1;say 30 as -29;");
     Bench.due("itself ahead of the 31st", () -> back.cause(0, 2, 30, 1), 3);
-    NumberSpeech below = by("say 0 to 29 as -1;");
+    NumberSpeech below = Bench.by("say 0 to 29 as -1;");
     Bench.due("below 0 ahead of the 31st", () -> below.cause(0, 29, 30, 1), 2);
   }
 
   private static void tooLong() {
-    NumberSpeech x = by("say 50 as aaaaaaaa bbbbbbbb cccccccc dddddddd ~eeeeeeee;say 47 as gg ~-2;say 45 as aaaaaaaa bbbbbbbb cccccccc dddddddd +2;"
+    NumberSpeech x = Bench.by("say 50 as aaaaaaaa bbbbbbbb cccccccc dddddddd ~eeeeeeee;say 47 as gg ~-2;say 45 as aaaaaaaa bbbbbbbb cccccccc dddddddd +2;"
         + "say 51 as -1 -1 ccccccc ~%1 d;say 52 as -2~-2 ccccccc ~ d;say 53 as -3 -3 cccccccc;say 54 as -4 ~-4 -1 e;");
     Bench.due("bytes", () -> x.said(0, 50, 0), 43);
     Bench.due("96 bytes", () -> x.said(0, 51, 0), 96);
     Bench.due("95 bytes", () -> x.said(0, 52, 0), 95);
     Bench.due("96 bytes", () -> x.said(0, 53, 0), 96);
     dueCauses(x, 54, new int[][] {{54, 5, 6, 3}});
-    NumberSpeech y = by("say 1 as aaaaaaaa aaaaaaaa aaaaaaaa aaaaaaaa aaaaaaaa aaaa;say 2 as -1~-1 b;say 3 as -2;say 4 as -3~b;say 5 as -3 c;"
+    NumberSpeech y = Bench.by("say 1 as aaaaaaaa aaaaaaaa aaaaaaaa aaaaaaaa aaaaaaaa aaaa;say 2 as -1~-1 b;say 3 as -2;say 4 as -3~b;say 5 as -3 c;"
         + "say 6 as -3 -6;say 7 as -2;");
     Bench.due("49 bytes", () -> y.said(0, 1, 0), 49);
     Bench.due("100 bytes", () -> y.said(0, 2, 0), 100);
@@ -184,23 +177,23 @@ public final class PromisesOfNumbers {
   }
 
   private static void tooMany() {
-    NumberSpeech x = by("say 0 as %1;say 1 to 9 as -1 -1;say 10 as -2 -2 -4 -4;");
+    NumberSpeech x = Bench.by("say 0 as %1;say 1 to 9 as -1 -1;say 10 as -2 -2 -4 -4;");
     Bench.due("asked 8", () -> x.asked(0, 8), 510);
     Bench.due("asked 10, by 8 twice: the second one is too many", () -> x.asked(0, 10), -1);
     int last = x.causes(0, 10) - 1;
     Bench.due("which", () -> x.cause(0, 10, last, 1), 6);
     Bench.due("rule", () -> x.cause(0, 10, last, 2), -1);
     Bench.due("item above", () -> x.cause(0, 10, last - 1, 1), 0);
-    NumberSpeech y = by("say 0 as %1;say 1 to 6 as -1 -1;say 7 as -1 -1 -1 -1 -1 -1;say 8 as -1 -2 -5 -7 -8 -8;say 9 as -1 -9;");
+    NumberSpeech y = Bench.by("say 0 as %1;say 1 to 6 as -1 -1;say 7 as -1 -1 -1 -1 -1 -1;say 8 as -1 -2 -5 -7 -8 -8;say 9 as -1 -9;");
     Bench.due("asked 6", () -> y.asked(0, 6), 126);
     Bench.due("asked 7", () -> y.asked(0, 7), 762);
     Bench.due("asked 8", () -> y.asked(0, 8), 763 + 127 + 15 + 3 + 2);
     Bench.due("asked 9", () -> y.asked(0, 9), 912);
-    NumberSpeech z = by("say 0 as %1;say 1 to 6 as -1 -1;say 7 as -1 -1 -1 -1 -1 -1;say 8 as -1 -2 -4 -4 -5 -5;say 9 as -1 -9 -9;say 10 as -1 -10;");
+    NumberSpeech z = Bench.by("say 0 as %1;say 1 to 6 as -1 -1;say 7 as -1 -1 -1 -1 -1 -1;say 8 as -1 -2 -4 -4 -5 -5;say 9 as -1 -9 -9;say 10 as -1 -10;");
     Bench.due("asked 8", () -> z.asked(0, 8), 763 + 127 + 31 + 31 + 15 + 15);
     Bench.due("asked 9", () -> z.asked(0, 9), 985);
     Bench.due("asked 10", () -> z.asked(0, 10), 987);
-    NumberSpeech twice = by("say 0 as %1;say 1 to 8 as -1 -1;say 9 as -1;say 10 as -2 -2;");
+    NumberSpeech twice = Bench.by("say 0 as %1;say 1 to 8 as -1 -1;say 9 as -1;say 10 as -2 -2;");
     Bench.due("asked 9", () -> twice.asked(0, 9), 511);
     Bench.due("asked 10", () -> twice.asked(0, 10), -1);
     exactlyAThousand();
@@ -208,12 +201,12 @@ public final class PromisesOfNumbers {
 
   /** 1,000 numbers asked for can be, 1,001 not. */
   private static void exactlyAThousand() {
-    NumberSpeech x = by("say 0 as %1;say 1 to 6 as -1 -1;say 7 as -1 -1 -1 -1 -1 -1;say 8 as -1 -2 -4 -4 -5 -5;say 9 as -1 -7 -7;"
+    NumberSpeech x = Bench.by("say 0 as %1;say 1 to 6 as -1 -1;say 7 as -1 -1 -1 -1 -1 -1;say 8 as -1 -2 -4 -4 -5 -5;say 9 as -1 -7 -7;"
         + "say 10 as -1 -10 -10 -10;say 11 as -2 -11 -11 -11;");
     Bench.due("asked 8", () -> x.asked(0, 8), 982);
     Bench.due("asked 9", () -> x.asked(0, 9), 997);
     Bench.due("asked 11: 1,001", () -> x.asked(0, 11), -1);
-    NumberSpeech y = by("say 0 as %1;say 1 to 6 as -1 -1;say 7 as -1 -1 -1 -1 -1 -1;say 8 as -1 -2 -4 -4 -5 -5;say 9 as -1 -7 -7;"
+    NumberSpeech y = Bench.by("say 0 as %1;say 1 to 6 as -1 -1;say 7 as -1 -1 -1 -1 -1 -1;say 8 as -1 -2 -4 -4 -5 -5;say 9 as -1 -7 -7;"
         + "say 10 as -1 -10 -10;say 11 as -2 -11 -11;say 12 as -3 -12 -12 -12;");
     Bench.due("exactly 1,000", () -> y.asked(0, 10), 1000);
     Bench.due("exactly 1,000", () -> y.asked(0, 11), 1000);
