@@ -1117,10 +1117,8 @@ public final class NumberSpeech {
             return sum;
         }
 
+        /** Of an n that both say or neither does. */
         boolean isLike(Memo other, int n) {
-            if (isSaid(n) != other.isSaid(n)) {
-                return false;
-            }
             return compareBytes(bytes, startOf(n), lengthOf(n), other.bytes, other.startOf(n), other.lengthOf(n)) == 0;
         }
     }

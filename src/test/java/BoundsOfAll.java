@@ -101,6 +101,7 @@ public final class BoundsOfAll {
       Bench.dueRow("one gap within", w -> x.silent(1, w), 7, 1, 1, 7, 1);
       x.limit(7);
       Bench.dueRow("it ends at the limit", w -> x.silent(1, w), 7, 1, 1, 7, 1);
+      Bench.dueRow("it is the limit alone", w -> x.silent(0, w), 5, 0, 3, 3, 0);
       x.limit(6);
       Bench.dueRow("it ends at the limit", w -> x.silent(1, w), 6, 1, 1, 6, 1);
       Bench.dueRow("none at the limit", w -> x.silent(0, w), 4, 0, 2, 3, 0);
@@ -152,6 +153,17 @@ public final class BoundsOfAll {
       dueRead(x, 2, 1, 3, 3);
       x.limit(2);
       dueRead(x, 2, 0, -1, -1);
+      NumberSpeech y = Bench.by(1000, "say 999 as b;say 1000 as a;say 0 as ab;say 1001 to 999999999 as c;", "");
+      Bench.tape(y, "ab");
+      for (int n = 1000; n <= 1400; n++) {
+        int above = n;
+        if (n % 50 == 0) dueRead(y, 1, 1, 1000, 1000);
+        Bench.due("said of " + n, () -> y.said(0, above, 0), 1);
+      }
+      dueRead(y, 1, 1, 1000, 1000);
+      dueRead(y, 2, 1, 0, 0);
+      Bench.tape(y, "b");
+      Bench.due("said of 999 alone", () -> y.read(0, 1, 1), 999);
       for (String other : new String[] {"a  b", " a b", "a b ", "A b", "a\u0000b", "a\tb"}) {
         int n = Bench.tape(x, other);
         dueRead(x, n, 0, -1, -1);
@@ -162,6 +174,7 @@ public final class BoundsOfAll {
       Bench.tape(x, "aa");
       dueRead(x, 1, 1001, 0, 1000);
       dueRead(x, 2, 0, -1, -1);
+      dueRead(x, 0, 0, -1, -1);
       dueRead(x, 20, 0, -1, -1);
       Bench.due("the tape stays", () -> x.told(1), 20);
       dueRead(x, 1, 1001, 0, 1000);
@@ -544,6 +557,8 @@ public final class BoundsOfAll {
       Bench.due("the only one", () -> x.needless(1), 0);
       Bench.rules(x, 1, "say 20 as a;");
       Bench.due("the only one, above the limit", () -> x.needless(1), 1);
+      Bench.rules(x, 1, "say 7 as +1;");
+      Bench.due("the only one, all are silent by it", () -> x.needless(1), 1);
       Bench.rules(x, 1, "");
       Bench.due("none", () -> x.needless(1), 0);
       Bench.rules(x, 1, "say 0 as %1;say 1 as +4;say 5 as -5;say 6 as +30;say 36 as x;say 6 to 7 as x;");

@@ -128,7 +128,10 @@ public final class BoundsOfNumbers {
     Sentences.holds("Terms", "SAID of n (0 to 999,999,999)", () -> {
       NumberSpeech x = Bench.by("say 0 to 999999999 as a;");
       for (int n : new int[] {0, 1, 1000, 1001, 999999998, 999999999}) Bench.dueSaid(x, 0, n, "a");
-      for (int n : new int[] {-1, 1000000000, Integer.MAX_VALUE, Integer.MIN_VALUE}) Bench.dueSaid(x, 0, n, null);
+      for (int n : new int[] {-1, 1000000000, Integer.MAX_VALUE, Integer.MIN_VALUE}) {
+        Bench.dueSaid(x, 0, n, null);
+        dueCauses(x, n, new int[][] {{n, 2, -1, -1}});
+      }
     });
     Sentences.holds("Terms", "n is SILENT, 1: if no RULE FITS", () -> {
       NumberSpeech x = Bench.by("say 4 to 6 as a;say 9 as +1;");
@@ -183,6 +186,14 @@ public final class BoundsOfNumbers {
       Bench.dueSaid(x, 0, 62, "z z z");
       Bench.due("the second of two, 29 deep", () -> x.asked(1, 29), 58);
       Bench.due("30 deep", () -> x.asked(1, 30), -1);
+      NumberSpeech y = Bench.by("say 0 as z;say 1 to 20 as -1;say 60 as -40 -60;say 61 to 69 as -1;say 80 as -11 -13 -80;");
+      for (int first : new int[] {60, 68, 69}) {
+        y.said(0, first, 0);
+        Bench.due("20 deep, then none", () -> y.asked(0, 60), 22);
+        Bench.due("to the 30th by the first item", () -> y.asked(0, 68), 30);
+        dueLast(y, 69, 31, 0, 4);
+        dueLast(y, 80, 31, 1, 4);
+      }
     });
     Sentences.holds("Terms", "6: if it would be the 1,001st that is asked for by ITEMS, and theirs, in all as the uppermost one is said", BoundsOfNumbers::tooMany);
     Sentences.holds("Terms", "5: if its own text would be more than 100 bytes (as soon as one of its ITEMS brings it above that)", BoundsOfNumbers::tooLong);
@@ -226,7 +237,7 @@ public final class BoundsOfNumbers {
     String fifty = "aaaaaaaa aaaaaaaa aaaaaaaa aaaaaaaa aaaaaaaa aaaaa";
     NumberSpeech x = Bench.by("say 1 as " + fifty + ";say 2 as -1~-1;say 3 as -2 -2;say 4 as -2~b;say 5 as -3~%1 %5;say 6 as -4 b;say 7 as -5 b -7;say 8 as -6 -8 b;"
         + "say 9 as -8 bbbbbbbb bbbbbbbb bbbbbbbb bbbbbbbb bbbbbbbb;say 10 as -1 bbbb;say 11 as -2 bbbbb;say 12 as -3~bbbbb;say 13 as -4~bbbbbb;say 14 as -3;"
-        + "say 15 as b -6;say 16 as bbbb -7;say 17 as bbbbb -8;say 18 as -3 -3;say 19 as -17~-17~%1;");
+        + "say 15 as b -6;say 16 as bbbb -7;say 17 as bbbbb -8;say 18 as -3 -3;say 19 as -17~-17~%1;say 30 as %1;say 31 as -29 -1;say 32 as -30 -2~-2 %8;");
     Bench.due("fifty bytes", () -> x.said(0, 1, 0), 50);
     Bench.dueRow("100 bytes", w -> x.said(0, 2, w), 100, 11, 90);
     Bench.due("the last byte", () -> x.at(0, 2, 99), 'a');
@@ -234,6 +245,8 @@ public final class BoundsOfNumbers {
     dueCauses(x, 3, new int[][] {{3, 5, 2, 1}});
     dueCauses(x, 4, new int[][] {{4, 5, 3, 2}});
     Bench.due("nothing more stays 100", () -> x.said(0, 5, 0), 100);
+    Bench.due("nothing asked for stays 100", () -> x.said(0, 31, 0), 100);
+    Bench.due("nothing asked for twice stays 100", () -> x.said(0, 32, 0), 100);
     dueCauses(x, 6, new int[][] {{6, 5, 5, 1}});
     dueCauses(x, 7, new int[][] {{7, 5, 6, 1}});
     dueCauses(x, 8, new int[][] {{8, 0, 7, 1}, {0, 1, -1, -1}});
@@ -294,6 +307,9 @@ public final class BoundsOfNumbers {
       dueCauses(x, 9, new int[][] {{9, 0, 0, 1}, {10, 0, 1, 0}, {11, 0, 2, 3}, {1000, 1, -1, -1}});
       dueCauses(x, 10, new int[][] {{10, 0, 1, 0}, {11, 0, 2, 3}, {1000, 1, -1, -1}});
       Bench.missing("none below", () -> x.cause(0, 10, 3, 0));
+      Bench.dueSaid(x, 0, 11, null);
+      Bench.dueSaid(x, 0, 1000, null);
+      dueCauses(x, 9, new int[][] {{9, 0, 0, 1}, {10, 0, 1, 0}, {11, 0, 2, 3}, {1000, 1, -1, -1}});
     });
   }
 

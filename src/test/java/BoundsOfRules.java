@@ -43,7 +43,12 @@ public final class BoundsOfRules {
       Bench.due("the same", () -> x.limit(2), 2);
       Bench.due("back to 3", () -> x.limit(3), 2);
       Bench.due("order from now on", () -> x.order(0, 0), 3);
-      Bench.due("what is said of higher ones stays", () -> { x.limit(1); return x.said(0, 3, 0); }, 1);
+      Bench.due("and down again", () -> x.limit(2), 3);
+      Bench.due("order from now on", () -> x.order(0, 0), -1);
+      Bench.due("to the least", () -> x.limit(1), 2);
+      Bench.due("what is said of higher ones stays", () -> x.said(0, 3, 0), 1);
+      Bench.rules(x, 0, "say 0 to 999999999 as a;");
+      for (int n : new int[] {2, 100, 101, 1000, 1001, 999999999}) Bench.due("what is said of " + n + " stays", () -> x.said(0, n, 0), 1);
     });
     Sentences.holds("Promise 6", "IllegalArgumentException: another argument (so below).", () -> {
       NumberSpeech x = Bench.by("say 3 as a;");
@@ -96,10 +101,13 @@ public final class BoundsOfRules {
       Bench.due("none", () -> x.silent(0, 0), 101);
       Bench.missing("none more", () -> x.drop(0, 0));
       Bench.text(x, thirty(1));
+      Bench.text(x, thirty(0));
       Bench.due("the last of thirty", () -> x.drop(1, 29), 29);
       Bench.due("the first of 29", () -> x.drop(1, 0), 28);
       Bench.due("the first then", () -> x.rule(1, 0, 0), 101);
       Bench.due("the last then", () -> x.rule(1, 27, 0), 128);
+      Bench.due("the other language's stay", () -> x.told(3), 30);
+      Bench.due("the other language's last stays", () -> x.rule(0, 29, 0), 129);
     });
     Sentences.holds("Promise 7", "NoSuchElementException: no such LANGUAGE, RULE, ITEM, CAUSE (so below, ahead of others).", () -> {
       NumberSpeech x = Bench.by("say 0 as a;say 1 as b~c;", "say 0 as z;");
@@ -120,6 +128,16 @@ public final class BoundsOfRules {
       Bench.due("none more can be taken back", () -> x.told(2), 2);
       Bench.due("none was wrong", () -> x.status(1), 0);
       Bench.due("all were missing", () -> x.status(0), 4 * 24 + 20 + 1 + 5 + 1 + 5 + 1);
+      x.drop(0, 1);
+      Bench.missing("drop(0,1), that went", () -> x.drop(0, 1));
+      Bench.missing("rise(0,1), that went", () -> x.rise(0, 1));
+      Bench.missing("rule(0,1,0), that went", () -> x.rule(0, 1, 0));
+      Bench.missing("item(0,1,0,0), that went", () -> x.item(0, 1, 0, 0));
+      Bench.text(x, "language 1;");
+      Bench.missing("rule(1,0,0), of a text's that went", () -> x.rule(1, 0, 0));
+      x.undo();
+      x.undo();
+      Bench.due("all is back", Bench.book(x), before);
     });
   }
 

@@ -36,7 +36,21 @@ public final class BoundsOfTexts {
       NumberSpeech refused = new NumberSpeech();
       for (int call = 1; call <= 511; call++) Bench.wrong("call " + call, () -> refused.limit(0));
       Bench.due("call 512", () -> refused.status(1), 511);
+      NumberSpeech missing = new NumberSpeech();
+      for (int call = 1; call <= 511; call++) {
+        boolean odd = call % 2 == 1;
+        Bench.missing("call " + call, () -> odd ? missing.drop(0, 0) : missing.fixed(2));
+      }
+      Bench.due("call 512", () -> missing.status(0), 511);
     });
+  }
+
+  /** The first bytes of a longer tape are taken as if there were no more. */
+  private static void dueCut(String tape, int length, int answer, int place) {
+    NumberSpeech x = new NumberSpeech();
+    Bench.bring(x, tape);
+    Bench.due("the first " + length + " of \"" + tape + "\"", () -> x.text(length), answer);
+    Bench.due("the fault of the first " + length + " of \"" + tape + "\"", () -> x.fault(), place);
   }
 
   // ---- the terms: what a rule can be ----
@@ -182,6 +196,7 @@ public final class BoundsOfTexts {
       Bench.dueFault("  langage 7;", 1, 2);
       Bench.dueFault(HEAD + "say 5 every 0 9 as a;", 2, 23);
       Bench.dueFault(HEAD + "say    1000000000 as a;", 2, 18);
+      Bench.dueFault(HEAD + "say 5 as a ~  ;", 4, 22);
     });
     Sentences.holds("Terms", "at the length, if the text ends too early", () -> {
       String whole = "language 0;say 5 to 9 every 2 1 as ab ~ /10;";
@@ -199,6 +214,17 @@ public final class BoundsOfTexts {
       Bench.bring(x, "language 0;say 5 as a;");
       Bench.due("the length is the text's, not the tape's", () -> x.text(19), -9);
       Bench.due("the length", () -> x.fault(), 19);
+      int[] places = {0, 0, 0, 0, 0, 0, 0, 0, 8, 9, 10, -1, 11, 11, 14, 15, 16, 17, 17, 19, 20, 21, 22, 22, 22, 22, 22, 27, 28, 29, 30, 31, 32, 32, 34, 35,
+        36, 37, 38, 39, 40, 41, 42, 43, -1};
+      for (int length = 0; length < places.length; length++) dueCut(whole, length, places[length] < 0 ? length / 40 : -9, places[length]);
+      String blanks = "   language   0   ;   say   5   as   a   ~   b   /   1   ;   ";
+      for (int length : new int[] {1, 2, 3, 11, 12, 13, 14, 15, 16, 17, 18, 26, 27, 28, 29, 30, 31, 32}) dueCut(blanks, length, -9, length);
+      for (int length : new int[] {34, 35, 36, 37, 39, 41, 44, 46, 48, 50, 52, 54, 55, 56}) dueCut(blanks, length, -9, length);
+      for (int length : new int[] {19, 20, 21, 22, 58}) dueCut(blanks, length, length / 58, -1);
+      dueCut(HEAD + "say 5 as abcdefghi;", 28, -9, 28);
+      dueCut(HEAD + "say 5 as abcdefghi;", 29, -9, 20);
+      dueCut(HEAD + "say 5 as /1000000;", 27, -9, 27);
+      dueCut(HEAD + "say 5 as /1000000;", 28, -8, 21);
     });
     Sentences.holds("Terms", "no ITEM;", () -> {
       Bench.dueFault(HEAD + "say 5 as;", 1, 19);
@@ -326,6 +352,13 @@ public final class BoundsOfTexts {
         Bench.due("a byte above 127", () -> x.text(20), -9);
         int at = place;
         Bench.due("its place", () -> x.fault(), at);
+      }
+      String twenty = "language0;say5 as a;";
+      Bench.due("twenty bytes", () -> Bench.text(x, twenty), 1);
+      for (int place = 0; place < 20; place++) {
+        char[] signs = twenty.toCharArray();
+        signs[place] |= 128;
+        Bench.due("a letter's eighth bit counts, at " + place, () -> Bench.text(x, new String(signs)), -9);
       }
       for (int i = 1; i <= 20; i++) {
         int due = 20 * i;
