@@ -749,7 +749,7 @@ public final class NumberSpeech {
         }
 
         void keep(Book book) {
-            Book place = books[next];
+            Book place = bookAt(next);
             if (place != null) {
                 place.copyFrom(book);
             }
@@ -760,10 +760,14 @@ public final class NumberSpeech {
         void takeBack(Book book) {
             next = next > 0 ? next - 1 : MOST_UNDO - 1;
             size = Math.max(size - 1, 0);
-            Book place = books[next];
+            Book place = bookAt(next);
             if (place != null) {
                 book.copyFrom(place);
             }
+        }
+
+        private Book bookAt(int place) {
+            return place >= 0 && place < books.length ? books[place] : null;
         }
     }
 
