@@ -214,7 +214,22 @@ public final class PromisesOfNumbers {
     Bench.dueSaid(y, 0, 10, "");
   }
 
+  /** Texts as long as can be, of so many numbers above all that each place where the object may keep one is used to its end. */
+  private static void longAboveAll() {
+    String even = "aaaaaaaa bbbbbbbb cccccccc dddddddd eeeeeeee fffff";
+    String odd = even.replace('f', 'g');
+    NumberSpeech x = Bench.by("say 0 to 2000 every 2 0 as " + even + ";say 0 to 2000 as " + odd + ";say 2001 to 2400 as -1500 ~ -1500;"
+        + "say 3001 to 3400 as -1000;", "say 0 as " + even + ";say 1 as " + odd + ";say 10 to 11 as #10 ~ #10;");
+    for (int n = 3001; n <= 3151; n++) {
+      int asking = n;
+      Bench.due("said " + n + ", as " + (n - 1000), () -> x.said(0, asking, 0), 100);
+      Bench.due("its last byte", () -> x.at(0, asking, 99), n % 2 == 0 ? 'f' : 'g');
+      Bench.due("heard " + (n - 1000), () -> x.heard(1, asking - 1000), 1);
+    }
+  }
+
   public static void main(String[] args) {
+    longAboveAll();
     promise14();
     promise15();
     promise16();
