@@ -329,6 +329,16 @@ public final class PromisesOfAll {
     Bench.text(x, "language 1;say 0 as z;say 1 to 9 as b~-1;say 10 to 1000 as /10~c~#10;");
     Bench.dueRow("words, all unlike", w -> x.words(1, w), 1001, 1, 10);
     Bench.missing("words of no language", () -> x.words(2, 9));
+    wordsOfTheFirstPlace();
+  }
+
+  /** These words, counted in a table by their letters, would all fall on its first place. */
+  private static void wordsOfTheFirstPlace() {
+    NumberSpeech x = Bench.by(10, "say 0 as ccc;say 1 to 2 as eifa ccc;say 5 as flic;", "say 0 to 9 as gole ccc;");
+    Bench.dueRow("words: ccc 3, eifa 2, flic", w -> x.words(0, w), 3, 3, 3);
+    Bench.dueRow("words: ccc 10, gole 10", w -> x.words(1, w), 2, 10, 3);
+    Bench.text(x, "language 0;");
+    Bench.dueRow("words, all silent", w -> x.words(0, w), 0, 0, 0);
   }
 
   private static void promise32() {
